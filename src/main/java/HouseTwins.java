@@ -223,7 +223,16 @@ public final class HouseTwins {
             run.runMonth(month);
             int lots = law.unevenLots(run.things);
             if (lots != 0) {
-                return what == 0 ? month : Integer.numberOfTrailingZeros(lots);
+                return what == 0 ? month : firstLot(lots);
+            }
+        }
+        return NONE;
+    }
+
+    private static int firstLot(int bits) {
+        for (int i = 0; i < MOST_LOTS; i++) {
+            if ((bits >> i & 1) != 0) {
+                return i;
             }
         }
         return NONE;
@@ -1344,6 +1353,8 @@ public final class HouseTwins {
         // Twelve months hold three of each PRICE: a state counts, in base 4, those of each that are taken.
         static final int MONTHS_OF_PRICE = 3;
         static final int STATES = 256;
+        // Above every sum and every month of a PLAN.
+        static final int BEYOND = 1000000;
 
         private final Law law;
         private final Scene scene;
@@ -1387,7 +1398,7 @@ public final class HouseTwins {
         }
 
         private int leastFrom(int state, int weight) {
-            int best = Integer.MAX_VALUE;
+            int best = BEYOND;
             for (int q = 0; q < PRICES; q++) {
                 if (taken(state, q) < MONTHS_OF_PRICE) {
                     best = Math.min(best, costWith(state, q, weight));
@@ -1401,7 +1412,7 @@ public final class HouseTwins {
             int state = 0;
             for (int w = 0; w < wants; w++) {
                 int chosen = 0;
-                months[w] = Integer.MAX_VALUE;
+                months[w] = BEYOND;
                 for (int q = 0; q < PRICES; q++) {
                     int month = firstMonth + (q - firstMonth & 3) + PRICES * taken(state, q);
                     boolean free = taken(state, q) < MONTHS_OF_PRICE;

@@ -81,6 +81,19 @@ public final class WantsTest {
         x.want(0, 2);
         duePlan(x, 0, 10, 0, 1, 4);
         duePlan(x, 1, 10, 1, 2, 4);
+        // No more than three months of the twelve have the same price.
+        x = Check.told("price 9 9 9 1;");
+        x.want(0, 1);
+        x.want(0, 2);
+        x.want(0, 3);
+        x.want(0, 4);
+        duePlan(x, 0, 30 + 90, 0, 3, 7, 11);
+        x = Check.told("price 1 9 9 9;");
+        x.want(0, 1);
+        x.want(0, 2);
+        x.want(0, 3);
+        x.want(0, 4);
+        duePlan(x, 2, 30 + 90, 2, 4, 8, 12);
         x = Check.told("lack 0 house;lack 1 house;bend 0;lots 1;");
         x.want(0, 1);
         duePlan(x, 2, 10, 2);
