@@ -1562,15 +1562,18 @@ public final class HouseTwins {
             return Math.min(n, (size - f) / 3);
         }
 
-        /** The machine takes nothing as a row of any lane, and finds it only where a CELL is read. */
+        /**
+         * The machine refuses only where a THING is read: none, no FAULT.
+         * It takes nothing as a row of any lane, and finds that where a CELL is read.
+         */
         int faultOfReading(int takenAs, int f, int n) {
-            if (size >= 0 && lane != takenAs) {
-                return CAST;
-            }
             if (wholeThings(takenAs, f, n) >= n) {
                 return 0;
             }
-            return size < 0 ? NULL : INDEX;
+            if (size < 0) {
+                return NULL;
+            }
+            return lane != takenAs ? CAST : INDEX;
         }
     }
 }

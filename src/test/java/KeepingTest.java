@@ -161,10 +161,25 @@ public final class KeepingTest {
         Check.due("torn(): INDEX", x.torn(), 2);
         Check.due("read of the end", x.read(0, 0, 8, 1), 0);
         Check.due("torn(): INDEX", x.torn(), 2);
-        Check.due("read of none of another lane: it is taken as of it", x.read(0, 1, 0, 0), 0);
-        Check.due("torn(): CAST", x.torn(), 3);
-        Check.due("read of none of nothing: no cell is read", x.read(1, 1, 0, 0), 0);
-        Check.due("torn()", x.torn(), 0);
+        readsOfNone();
+    }
+
+    private static void readsOfNone() {
+        for (int k = 0; k < 4; k++) {
+            for (int lane = 0; lane < 3; lane++) {
+                HouseTwins x = new HouseTwins();
+                for (int made = 0; made < 3; made++) {
+                    x.sheet(made, made, made == 2 ? 0 : 4);
+                }
+                x.read(3, 0, 0, 1);
+                Check.due("torn(): NULL ahead", x.torn(), 1);
+                for (int f : new int[] {0, 4, -1, 40, Integer.MAX_VALUE, Integer.MIN_VALUE}) {
+                    String call = "read(" + k + ", " + lane + ", " + f + ", 0)";
+                    Check.due(call, x.read(k, lane, f, 0), 0);
+                    Check.due("torn() after " + call + ": no cell is read", x.torn(), 0);
+                }
+            }
+        }
     }
 
     private static void refusedReads() {

@@ -875,10 +875,10 @@ final class Oracle {
         List<int[]> whole = new ArrayList<>();
         int found = 0;
         try {
-            byte[] bytes = lane == 0 ? (byte[]) sheets[k] : null;
-            short[] shorts = lane == 1 ? (short[]) sheets[k] : null;
-            int[] ints = lane == 2 ? (int[]) sheets[k] : null;
             for (int t = 0; t < n; t++) {
+                byte[] bytes = lane == 0 ? (byte[]) sheets[k] : null;
+                short[] shorts = lane == 1 ? (short[]) sheets[k] : null;
+                int[] ints = lane == 2 ? (int[]) sheets[k] : null;
                 whole.add(triple(bytes, shorts, ints, lane, f + 3 * t));
             }
         } catch (NullPointerException e) {
