@@ -11,15 +11,18 @@ public final class RandomTest {
     private Oracle o = new Oracle();
     private final StringBuilder run = new StringBuilder();
     private int month;
+    private int calls;
 
     private RandomTest(long seed) {
         random = new Random(seed);
     }
 
     public static void main(String[] args) {
-        for (int seed = 0; seed < 1500; seed++) {
+        for (int seed = 0; seed < 3500; seed++) {
             RandomTest test = new RandomTest(seed);
-            for (int n = 0; n < 110; n++) {
+            test.feedAndTell();
+            // Of 512 calls the last one here may make some 60.
+            while (test.calls < 440) {
                 test.call();
             }
         }
@@ -54,6 +57,7 @@ public final class RandomTest {
     }
 
     private void due(String call, long got, long want) {
+        calls++;
         run.append(call).append('=').append(got).append(' ');
         Check.due(got == want ? call : run.toString(), got, want);
     }
@@ -187,12 +191,14 @@ public final class RandomTest {
         switch (below(14)) {
             case 0, 1, 2 -> due("put(" + b + ", " + i + ", " + t + ")", x.put(b, i, t), o.put(b, i, t));
             case 3, 4 -> {
+                calls += 2;
                 int m = x.match(b, i);
                 int twin = x.mirror(t);
                 due("put(" + b + ", " + i + ", " + t + ")", x.put(b, i, t), o.put(b, i, t));
                 due("put(" + (1 - b) + ", " + m + ", " + twin + ")", x.put(1 - b, m, twin), o.put(1 - b, m, twin));
             }
             case 5, 6, 7 -> {
+                calls += 2;
                 int m = Math.max(0, x.work(x.rule(3) - 1, 0)) + below(2) - (often(15) ? 0 : 1);
                 due("plot(" + m + ", " + b + ", " + i + ", " + t + ")", x.plot(m, b, i, t), o.plot(m, b, i, t));
             }
