@@ -414,6 +414,12 @@ public final class ChoicesEdgesTest {
         for (int what : new int[] {-1, 2, MIN, MAX}) {
             Check.due("cannot(" + what + ")", x.cannot(what), Check.BAD);
         }
+        HouseTwins falling = Check.told("lack 1 house;cost 0 20 20 20 20 20;cost 1 9 8 7 6 5;");
+        falling.want(0, 1);
+        Check.due("the cheapest for BANK 1", falling.cannot(1), 5);
+        HouseTwins rising = Check.told("lack 1 house;cost 0 4 3 2 1 0;cost 1 1 2 3 4 5;");
+        rising.want(0, 1);
+        Check.due("the cheapest for BANK 1", rising.cannot(1), 2);
         HouseTwins free = Check.told("lack 1 house;cost 1 5 0 5 5 5;");
         free.want(0, 1);
         Check.due("a KIND that costs nothing", free.cannot(1), 0);
@@ -532,6 +538,9 @@ public final class ChoicesEdgesTest {
             x.put(1, 6, 33);
             Check.due("of two the least", x.bend(), 0);
         }
+        // Only a BEND of 7, or one below 0, would make these even.
+        Check.due("none above 6", Check.told("lots 8;thing 0 0 house 0 left;thing 1 4 house 0 right;").bend(), 0);
+        Check.due("none below 0", Check.told("lots 8;thing 0 4 house 0 left;thing 1 0 house 0 right;").bend(), 0);
         HouseTwins one = Check.told("lots 1;thing 0 0 house 0 left;");
         Check.due("one THING alone quarrels by every BEND", one.bend(), 0);
         one.put(1, 0, 33);

@@ -366,27 +366,30 @@ public final class KeepingEdgesTest {
     }
 
     private static void newRowsOf0() {
-        HouseTwins x = new HouseTwins();
-        x.put(0, 0, 61);
-        x.sheet(0, 2, 40);
-        Check.due("CELLS 0: nothing on LOT 0 of BANK 0", x.read(0, 2, 1, 13), 13);
-        Check.due("thing(0, 0)", x.thing(0, 0), 0);
-        for (int c = 0; c < 40; c++) {
-            x.lay(0, c, 1);
+        for (int lane = 0; lane < 3; lane++) {
+            for (int c = 0; c < 40; c++) {
+                HouseTwins x = new HouseTwins();
+                x.sheet(0, lane, 40);
+                x.lay(0, c, 1);
+                // A shorter row comes between: nothing of the first one comes again.
+                x.sheet(0, lane, c % 2 == 0 ? 40 : 0);
+                x.sheet(0, lane, 40);
+                for (int f = Math.max(0, c - 2); f <= Math.min(37, c); f++) {
+                    x.put(0, 0, 61);
+                    x.put(1, 0, 61);
+                    x.put(0, 1, 61);
+                    Check.due("read from CELL " + f, x.read(0, lane, f, 1), 1);
+                    Check.due("CELLS 0: nothing on LOT 0 of BANK 0", x.thing(0, 0), 0);
+                    Check.due("as CELL " + c + " is no BANK 1", x.thing(1, 0), 61);
+                    Check.due("as CELL " + c + " is no LOT 1", x.thing(0, 1), 61);
+                }
+            }
         }
+        HouseTwins x = new HouseTwins();
         x.sheet(0, 2, 40);
-        x.put(1, 1, 61);
-        Check.due("a new row of CELLS 0", x.read(0, 2, 0, 13), 13);
-        Check.due("thing(1, 1)", x.thing(1, 1), 61);
-        // A shorter row, then a longer one: nothing of the first row comes again.
-        x.lay(0, 38, 1);
-        x.lay(0, 37, 1);
-        x.lay(0, 39, 5);
         x.sheet(0, 2, 3);
-        Check.due("the longer one is gone", x.lay(0, 37, 1), -12);
-        x.sheet(0, 2, 40);
-        Check.due("CELLS 0", x.read(0, 2, 37, 1), 1);
-        Check.due("thing(1, 1)", x.thing(1, 1), 61);
+        Check.due("the longer one is gone", x.lay(0, 3, 1), -12);
+        Check.due("no other SHEET is made", x.lay(1, 0, 1), -11);
     }
 
     // ---- promise 42

@@ -168,6 +168,23 @@ public final class RunsEdgesTest {
         // By LOTS of BANK 0, though the THING is on LOT 7 of BANK 1.
         HouseTwins bent = Check.told("lots 8;bend 6;thing 1 7 shop 0 left;thing 1 2 shop 0 left;thing 0 5 shop 0 left;");
         Check.due("odd by a bend", bent.odd(), 1 << 4);
+        // THINGS on LOTS that are not MATCHED, at either end of either BANK.
+        for (int lots = 1; lots <= 8; lots++) {
+            for (int bend = 0; bend <= 6; bend++) {
+                HouseTwins alone = Check.told("lots " + lots + ";bend " + bend + ";");
+                for (int i = 0; i < lots; i++) {
+                    if (i + bend - 3 < 0 || i + bend - 3 >= lots) {
+                        alone.put(0, i, 1);
+                    }
+                    if (i - bend + 3 < 0 || i - bend + 3 >= lots) {
+                        alone.put(1, i, 2);
+                    }
+                }
+                Check.due("none is odd: " + lots + ", " + bend, alone.odd(), 0);
+                Check.due("never uneven: " + lots + ", " + bend, alone.uneven(1), Check.NONE);
+                Check.due("no histories: " + lots + ", " + bend, alone.histories(23), 1);
+            }
+        }
     }
 
     private static void thirdBank() {

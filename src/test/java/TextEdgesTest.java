@@ -1,3 +1,5 @@
+import java.util.List;
+
 /** Promises 1 to 10 and their Terms at the edges: one method for each sentence that names some. */
 public final class TextEdgesTest {
     private static final int MIN = Integer.MIN_VALUE, MAX = Integer.MAX_VALUE;
@@ -28,6 +30,7 @@ public final class TextEdgesTest {
         lotsThatThereAreNot();
         firstFaultMet();
         emptyTexts();
+        textInPlaceOfAll();
         faultOfTheLatestText();
         rules();
         kinds();
@@ -551,6 +554,37 @@ public final class TextEdgesTest {
                 Check.due("count(" + what + ")", x.count(what), counts[what]);
             }
             Check.due("no WORKS", x.rule(3), 0);
+        }
+    }
+
+    /** A text that is taken leaves nothing of what there was: the object is as a new one that was told the same. */
+    private static void textInPlaceOfAll() {
+        StringBuilder things = new StringBuilder("lots 8;");
+        for (int i = 0; i < 8; i++) {
+            things.append("thing 0 ").append(i).append(" shop 1 left;thing 1 ").append(i).append(" shop 1 left;");
+        }
+        StringBuilder works = new StringBuilder("lots 8;");
+        for (int w = 0; w < 12; w++) {
+            works.append("work 23 1 7 tower 3 right;");
+        }
+        String law = "bend 0;pull 20;price 9 9 9 9;cost 0 9 9 9 9 9;cost 1 8 8 8 8 8;taste 0 7 7 7 7 7;taste 1 6 6 6 6 6;right house;right garden;"
+                + "right shop;right tower;right shrine;twin house shop;twin tower shrine;paint 0 1;paint 2 3;lack 0 house;lack 0 shrine;lack 1 shop;";
+        String[] befores = {things.toString(), works.toString(), law};
+        for (String before : befores) {
+            for (String text : new String[] {"", "pull 3;", "thing 1 4 house 0 left;", "lack 1 house;right tower;", "twin house garden;paint 0 3;", "work 5 0 0 nothing;"}) {
+                HouseTwins x = Check.told(before);
+                x.want(0, 1);
+                x.saw(0, 0, 0, true);
+                x.keep(0);
+                x.keep(1);
+                Check.due("lines of <" + text + ">", Check.tell(x, text), text.split(";", -1).length - 1);
+                List<String> got = Probe.everything(x);
+                List<String> want = Probe.everything(Check.told(text));
+                Check.due("as many answers", got.size(), want.size());
+                for (int n = 0; n < Math.min(got.size(), want.size()); n++) {
+                    Check.due("<" + got.get(n) + "> for <" + want.get(n) + "> behind <" + text + ">", got.get(n).equals(want.get(n)) ? 0 : 1, 0);
+                }
+            }
         }
     }
 
